@@ -74,6 +74,11 @@ public final class PromisesTest {
 
     // Promise 1
     private static void newObject() {
+        int[] constants = {NONE, UNKNOWN, OUTSIDE, NOT, FULL, NULL, CAST, INDEX, SIZE, STORE};
+        int[] values = {-1, -2, -3, -4, -5, -11, -12, -13, -14, -15};
+        for (int c = 0; c < values.length; c++) {
+            due("constant " + c, constants[c], values[c]);
+        }
         HedgeReader x = new HedgeReader();
         for (int what = 0; what <= 13; what++) {
             due("new count(" + what + ")", x.count(what), what == 3 ? 60 : what == 6 ? NONE : 0);
@@ -137,6 +142,14 @@ public final class PromisesTest {
         Checks.faultIs(x, two + "gate 2 0 1", 29);
         Checks.faultIs(x, two + "gate 0 2 1", 31);
         Checks.faultIs(x, two + "gate 1 1 1", 31);
+        Checks.faultIs(x, two + "gate", 28);
+        Checks.faultIs(x, two + "gate 0 ", 31);
+        Checks.faultIs(x, two + "gate 0 1", 32);
+        Checks.faultIs(x, two + "gate 0 1 5 6", 35);
+        Checks.faultIs(x, "gate 0", 5);
+        Checks.faultIs(x, "dark", 4);
+        Checks.faultIs(x, "word", 4);
+        Checks.faultIs(x, "word;", 4);
         Checks.faultIs(x, two + "gate 1 01 1", 31);
         Checks.faultIs(x, "thorn 0 1 a;gate 0 1 1;hazel 0 1 b", 19);
     }
@@ -154,6 +167,8 @@ public final class PromisesTest {
         Checks.faultIs(x, "  parish  ", NONE);
         Checks.faultIs(x, " parish ;  parish", NONE);
         Checks.faultIs(x, "parishes", 0);
+        Checks.faultIs(x, "parisk", 0);
+        Checks.faultIs(x, "karish", 0);
         Checks.faultIs(x, "Parish", 0);
         Checks.faultIs(x, "beech 0 1 a", 0);
         Checks.faultIs(x, "7", 0);
@@ -180,7 +195,12 @@ public final class PromisesTest {
         Checks.tell(x, "word a;word a;word a;word a;word a;word a;word a");
         Checks.faultIs(x, "word a", NONE);
         Checks.faultIs(x, "word a;word a", 7);
-        Checks.faultIs(x, "word a;parish;word a", NONE);
+        String eight = "word a;word a;word a;word a;word a;word a;word a;word a";
+        Checks.faultIs(x, "word a;parish;" + eight, NONE);
+        Checks.faultIs(x, "word a;parish;" + eight + ";word a", 70);
+        String nine = "gate 0 1 1;gate 0 1 1;gate 0 1 1;gate 0 1 1;gate 0 1 1;gate 0 1 1;gate 0 1 1;gate 0 1 1;gate 0 1 1";
+        Checks.faultIs(x, "parish;thorn 0 1 a;thorn 0 1 a;" + nine, NONE);
+        Checks.faultIs(x, "parish;thorn 0 1 a;thorn 0 1 a;" + nine + ";gate 0 1 1", 130);
         String nineteen = "dark10;".repeat(19);
         Checks.faultIs(x, nineteen + "dark10", NONE);
         Checks.faultIs(x, nineteen + "dark10;", 139);
@@ -604,6 +624,7 @@ public final class PromisesTest {
         due("cannot be read", x.whole(0), NONE);
         due("no holly in it", x.whole(1), 10 + 2 * (2 * 3 + 1) + 3 + 0);
         HedgeReader y = Checks.told("hazel 0 2 a;hazel 0 1 ab;hazel 0 2 abc;hazel 0 1 abcd;gate 0 1 1;gate 0 2 2;gate 2 3 4");
+        due("the last chapter", Checks.told("hazel 0 9 abc").whole(0), 3);
         due("like chapters by numbers", y.whole(0), 1 + 2 + 7 + 4 + 6 + 1 + 2 + 3);
     }
 
@@ -856,8 +877,10 @@ public final class PromisesTest {
         due("24", x.shelf(0, 2, 24), 24);
         due("number 0", x.look(0, 23), BASE);
         x.lay(0, 2, 23, 5);
+        x.lay(0, 2, 0, 5);
         due("anew", x.shelf(0, 2, 24), 24);
         due("number 0", x.look(0, 23), BASE);
+        due("number 0", x.look(0, 0), BASE);
         x.lay(0, 2, 3, 5);
         due("refused", x.shelf(0, 2, 25), OUTSIDE);
         due("stays", x.look(0, 3), BASE + 5);

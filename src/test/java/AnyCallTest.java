@@ -1,10 +1,13 @@
+import java.lang.reflect.InvocationTargetException;
 import java.lang.reflect.Method;
+import java.lang.reflect.Modifier;
 import java.util.ArrayList;
 import java.util.Random;
 
 /**
- * Any call with any numbers in any state: it answers (the machine never throws),
- * a refused one changes nothing, nor does what only tells or foretells.
+ * Any call with any numbers in any state: it answers (the machine never throws); one that is
+ * refused, or only tells or foretells, changes nothing. A twin that is spared those calls answers
+ * all others alike, so nothing was changed that shows only later (what can be undone, what is kept).
  */
 public final class AnyCallTest {
     private static final int[] ODD = {Integer.MIN_VALUE, Integer.MIN_VALUE + 1, -1000, -3, -2, -1, 24, 25, 60, 61,
@@ -17,6 +20,7 @@ public final class AnyCallTest {
 
     private final Random random;
     private final HedgeReader x = new HedgeReader();
+    private final HedgeReader twin = new HedgeReader();
 
     private AnyCallTest(long seed) {
         random = new Random(seed);
@@ -25,7 +29,7 @@ public final class AnyCallTest {
     public static void main(String[] args) throws Exception {
         ArrayList<Method> calls = new ArrayList<>();
         for (Method m : HedgeReader.class.getDeclaredMethods()) {
-            if (java.lang.reflect.Modifier.isPublic(m.getModifiers())) {
+            if (Modifier.isPublic(m.getModifiers())) {
                 calls.add(m);
             }
         }
@@ -40,11 +44,17 @@ public final class AnyCallTest {
     private void go(ArrayList<Method> calls) throws Exception {
         for (int i = 0; i < 512; i++) {
             if (random.nextInt(40) == 0) {
-                Checks.write(x, TEXTS[random.nextInt(TEXTS.length)]);
-                x.parish();
+                tellBoth(TEXTS[random.nextInt(TEXTS.length)]);
             }
             call(calls.get(random.nextInt(calls.size())));
         }
+        Checks.isTrue("the twin is alike", Checks.stateOf(x).equals(Checks.stateOf(twin)));
+    }
+
+    private void tellBoth(String text) {
+        Checks.write(x, text);
+        Checks.write(twin, text);
+        Checks.due("parish() of " + text, x.parish(), twin.parish());
     }
 
     private void call(Method m) throws Exception {
@@ -54,27 +64,21 @@ public final class AnyCallTest {
             numbers[i] = random.nextInt(6) == 0 ? ODD[random.nextInt(ODD.length)] : random.nextInt(8) - 1;
             told.append(' ').append(numbers[i]);
         }
-        String ahead = stateOf();
-        long answer = ((Number) m.invoke(x, numbers)).longValue();
-        String behind = stateOf();
+        String ahead = Checks.stateOf(x);
+        long answer = answerOf(m, x, numbers, told);
         if (answer < 0 || TELLING.contains(" " + m.getName() + " ")) {
-            Checks.isTrue(told + " changes nothing", ahead.equals(behind));
+            Checks.isTrue(told + " changes nothing", ahead.equals(Checks.stateOf(x)));
+        } else {
+            Checks.due(told + " of the twin", answerOf(m, twin, numbers, told), answer);
         }
     }
 
-    private String stateOf() {
-        StringBuilder all = new StringBuilder();
-        for (int what = 0; what <= 13; what++) {
-            all.append(x.count(what)).append(' ');
+    private static long answerOf(Method m, HedgeReader of, Object[] numbers, StringBuilder told) throws IllegalAccessException {
+        try {
+            return ((Number) m.invoke(of, numbers)).longValue();
+        } catch (InvocationTargetException thrown) {
+            Checks.isTrue(told + " threw " + thrown.getCause(), false);
+            return 0;
         }
-        for (int f = 0; f < 7; f++) {
-            all.append(x.field(f, 0)).append(x.field(f, 5)).append(x.field(f, 7)).append(x.kinds(f)).append(' ');
-        }
-        for (int s = 0; s < 4; s++) {
-            for (int i = 0; i < 25; i++) {
-                all.append(x.look(s, i)).append(' ');
-            }
-        }
-        return all.append(x.fault()).toString();
     }
 }

@@ -278,7 +278,7 @@ final class DoneSentences extends Sentences {
     }
 
     private static void birdsTakeOfAHolly() {
-        sentence("2", "of a HOLLY as of a THORN; of a BRAMBLE none;");
+        sentence("2", "of a HOLLY as of a THORN;");
         birdsTake("holly", "eo");
         HedgeReader x = told("holly 0 1 eaoeobeo");
         due("each", x.birds(), 6);

@@ -24,6 +24,10 @@ public final class LanguageTest {
     public static void main(String[] args) throws Exception {
         face();
         insideClasses();
+        fieldsOf(HedgeReader.class);
+        for (Class<?> c : HedgeReader.class.getDeclaredClasses()) {
+            fieldsOf(c);
+        }
         source();
         Checks.end("LanguageTest");
     }
@@ -85,9 +89,28 @@ public final class LanguageTest {
         }
     }
 
+    /** Static ones are constants; others hold numbers, booleans, own objects, or rows of these. */
+    private static void fieldsOf(Class<?> owner) {
+        for (Field f : owner.getDeclaredFields()) {
+            Class<?> type = f.getType();
+            if (Modifier.isStatic(f.getModifiers())) {
+                Checks.isTrue(f + " is a constant", Modifier.isFinal(f.getModifiers()) && type.isPrimitive());
+                continue;
+            }
+            int rows = 0;
+            while (type.isArray()) {
+                type = type.getComponentType();
+                rows++;
+            }
+            boolean own = type.getName().startsWith("HedgeReader$");
+            Checks.isTrue(f + " is of a type that may stand", type.isPrimitive() && rows <= 2 || own && rows <= 1);
+        }
+    }
+
     private static void source() throws Exception {
         String source = Files.readString(Path.of("src/main/java/HedgeReader.java"));
         String code = source.replaceAll("(?s)/\\*.*?\\*/", "").replaceAll("//[^\n]*", "");
+        Checks.isTrue("signs are 1 to 127", source.chars().allMatch(c -> c >= 1 && c <= 127));
         for (String word : NOT_USED) {
             Checks.isTrue("not used: " + word, !code.contains(word));
         }

@@ -312,6 +312,8 @@ final class ForetoldSentences extends Sentences {
         feastIs(x, 5, 0, 3);
         HedgeReader y = told("bramble 0 1 a;hazel 0 1 ab;hazel 0 1 ab;hazel 0 1 abcd;gate 0 1 3;gate 1 2 1;gate 0 3 6;dark 10");
         feastIs(y, 4, 3);
+        tell(y, "parish;thorn 0 1 abcd;hazel 0 1 ab;hazel 0 1 ab;gate 0 1 3;gate 1 2 3;dark 10");
+        feastIs(y, 4, 0);
         HedgeReader z = told("hazel 0 1 ab;hazel 0 1 ab;gate 0 1 1");
         z.plough(0);
         feastIs(z, 2, 1);
